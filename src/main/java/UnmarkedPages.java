@@ -71,7 +71,7 @@ public final class UnmarkedPages {
         if (now.ends(name, ended) == is) {
             return NONE;
         }
-        record();
+        recordState();
         now.setEnds(name, ended, is);
         return now.ruleCount();
     }
@@ -86,7 +86,7 @@ public final class UnmarkedPages {
         if (now.pageCount >= MOST_PAGES) {
             return FULL;
         }
-        record();
+        recordState();
         Codes codes = codesOf(now.pageCount);
         now.addPage(reader.page);
         knowledge.take(reader.page, codes);
@@ -97,7 +97,7 @@ public final class UnmarkedPages {
         if (now.pageCount <= 0) {
             return NOT_POSSIBLE;
         }
-        record();
+        recordState();
         now.pageCount--;
         packAnew();
         return now.pageCount;
@@ -111,7 +111,7 @@ public final class UnmarkedPages {
             return NONE;
         }
         int before = bitsOfAllPages();
-        record();
+        recordState();
         now.bringToFront(page);
         packAnew();
         return before - bitsOfAllPages() + GAIN_BASE;
@@ -169,7 +169,7 @@ public final class UnmarkedPages {
         if (!hasSnapshot) {
             return NONE;
         }
-        record();
+        recordState();
         now.become(snapshot);
         packAnew();
         return now.pageCount;
@@ -304,7 +304,7 @@ public final class UnmarkedPages {
     }
 
     /** Must stand ahead of every change that an act makes. */
-    private void record() {
+    private void recordState() {
         State room = history[0];
         if (historySize < history.length && historySize >= 0) {
             room = history[historySize];
