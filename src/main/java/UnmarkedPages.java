@@ -552,9 +552,8 @@ public final class UnmarkedPages {
             return set;
         }
 
-        /** The number of the order of a box's keys among all orders of these. */
-        int orderOfKeys(int box) {
-            int keys = Integer.bitCount(keySet(box));
+        /** The number of the order of a box's keys, of which there are so many, among all their orders. */
+        int orderOfKeys(int box, int keys) {
             int order = 0;
             for (int note = 0; note < keys; note++) {
                 int key = keyOfNote(box, note);
@@ -951,8 +950,9 @@ public final class UnmarkedPages {
                     takeValue(name, key, page.valueOfKey(box, key), codes);
                 }
             }
-            if (Integer.bitCount(set) >= 2) {
-                codes.add(page.orderOfKeys(box));
+            int keys = Integer.bitCount(set);
+            if (keys >= 2) {
+                codes.add(page.orderOfKeys(box, keys));
             }
         }
 
