@@ -152,7 +152,7 @@ public final class LanguageTest {
     private static void room() throws Exception {
         UnmarkedPages x = new UnmarkedPages();
         long[] fresh = held(x);
-        for (int i = 0; i < 20; i++) {
+        for (int i = 0; i < 14; i++) {
             x.clearText();
             for (char c : "<a w=1><b>hi<c></c></b></a>".toCharArray()) {
                 x.type(c);

@@ -1,15 +1,5 @@
 /** Each promise by hand; the answers that are due were worked out from the document. */
-public final class PromiseTest {
-    private static final int UNKNOWN = -1;
-    private static final int BAD_VALUE = -2;
-    private static final int FULL = -3;
-    private static final int NOT_POSSIBLE = -4;
-    private static final int NONE = -5;
-
-    private static int wrong = 0;
-    private static String promise = "";
-    private static UnmarkedPages x = new UnmarkedPages();
-
+public final class PromiseTest extends Checked {
     public static void main(String[] args) {
         newObject();
         rules();
@@ -46,59 +36,9 @@ public final class PromiseTest {
         }
     }
 
-    private static void begin(String name) {
-        promise = name;
-        x = new UnmarkedPages();
-    }
-
-    private static void due(String call, int got, int want) {
-        if (got != want) {
-            wrong++;
-            System.out.println(promise + ": " + call + " answered " + got + ", due is " + want);
-        }
-    }
-
-    private static void write(String text) {
-        x.clearText();
-        for (int i = 0; i < text.length(); i++) {
-            due("type in " + text, x.type(text.charAt(i)), i + 1);
-        }
-    }
-
-    private static int pack(String text) {
-        write(text);
-        return x.pack();
-    }
-
-    private static void fault(String text, int place, int kind, int cause) {
-        write(text);
-        due("fault(0) of " + text, x.fault(0), place);
-        due("fault(1) of " + text, x.fault(1), kind);
-        due("fault(2) of " + text, x.fault(2), cause);
-        due("pack() of " + text, x.pack(), -100 - place);
-        due("wouldTake(true) of " + text, x.wouldTake(true), -100 - place);
-        due("wouldTake(false) of " + text, x.wouldTake(false), -100 - place);
-    }
-
-    private static void noFault(String text) {
-        write(text);
-        for (int what = 0; what <= 2; what++) {
-            due("fault(" + what + ") of " + text, x.fault(what), NONE);
-        }
-    }
-
-    private static void row(int page, int row, int... codes) {
-        for (int place = 0; place < codes.length; place++) {
-            due("code(" + page + ", " + row + ", " + place + ")", x.code(page, row, place), codes[place]);
-        }
-        due("the end of row " + row, x.code(page, row, codes.length), NONE);
-    }
-
-    private static void textOf(int page, String text) {
-        for (int place = 0; place < text.length(); place++) {
-            due("charAt(" + page + ", " + place + ")", x.charAt(page, place), text.charAt(place));
-        }
-        due("the end of page " + page, x.charAt(page, text.length()), NONE);
+    private static void begin(String promise) {
+        about = promise;
+        fresh();
     }
 
     private static void newObject() {
@@ -384,8 +324,10 @@ public final class PromiseTest {
         due("fault(3) of a page", x.fault(3), BAD_VALUE);
         String whole = "<a w=0><f>gv</f></a>";
         for (int length = 0; length < whole.length(); length++) {
+            fresh();
             fault(whole.substring(0, length), length, 0, NONE);
         }
+        fresh();
         fault("a", 0, 1, NONE);
         fault(" <a></a>", 0, 1, NONE);
         fault("</a>", 1, 1, NONE);
@@ -397,6 +339,7 @@ public final class PromiseTest {
         fault("<a  w=1>", 3, 1, NONE);
         fault("<a w>", 4, 1, NONE);
         fault("<a w=>", 5, 1, NONE);
+        fresh();
         fault("<a w=:>", 5, 1, NONE);
         fault("<a w=12>", 6, 1, NONE);
         fault("<a>f", 3, 1, NONE);
@@ -616,38 +559,27 @@ public final class PromiseTest {
         String page = "<a z=1>g<b>hij<b x=1 w=2>k<c>l</c>m<c></c></b></a>";
         pack(page);
         textOf(0, page);
-        tell("a", 0, 1, 2, 8, 1, 1);
-        tell("a1", 0, 1, 2, 8, 1, 1);
-        tell("a/b", 8, 1, 0, 0, 3, 2);
-        tell("a/b1", 8, 1, 0, 0, 3, 2);
-        tell("a/b2", 14, 2, 2, 3, 1, 2);
-        tell("a/b2/c", 26, 1, 0, 0, 1, 3);
-        tell("a1/b2/c2", 35, 0, 0, 0, NONE, 3);
-        tellNone("a2");
-        tellNone("b");
-        tellNone("a/b3");
-        tellNone("a/b9");
-        tellNone("a/c");
-        tellNone("a/b/c");
-        tellNone("a/a");
-        tellNone("a/b2/c3");
-        tellNone("a/b2/c/c/c/c/c/c/c/c");
+        path(0, "a", 0, 1, 2, 8, 1, 1);
+        path(0, "a1", 0, 1, 2, 8, 1, 1);
+        path(0, "a/b", 8, 1, 0, 0, 3, 2);
+        path(0, "a/b1", 8, 1, 0, 0, 3, 2);
+        path(0, "a/b2", 14, 2, 2, 3, 1, 2);
+        path(0, "a/b2/c", 26, 1, 0, 0, 1, 3);
+        path(0, "a1/b2/c2", 35, 0, 0, 0, NONE, 3);
+        leadsToNone("a2");
+        leadsToNone("b");
+        leadsToNone("a/b3");
+        leadsToNone("a/b9");
+        leadsToNone("a/c");
+        leadsToNone("a/b/c");
+        leadsToNone("a/a");
+        leadsToNone("a/b2/c3");
+        leadsToNone("a/b2/c/c/c/c/c/c/c/c");
         write("a");
         due("path(1, 0)", x.path(1, 0), UNKNOWN);
         due("path(-1, 6)", x.path(-1, 6), UNKNOWN);
         due("path(0, -1)", x.path(0, -1), BAD_VALUE);
         due("path(0, 6)", x.path(0, 6), BAD_VALUE);
-    }
-
-    private static void tell(String path, int... answers) {
-        write(path);
-        for (int what = 0; what < answers.length; what++) {
-            due("path(0, " + what + ") of " + path, x.path(0, what), answers[what]);
-        }
-    }
-
-    private static void tellNone(String path) {
-        tell(path, NONE, NONE, NONE, NONE, NONE, NONE);
     }
 
     private static void pathFaults() {

@@ -8,16 +8,18 @@ import java.util.TreeSet;
 /** Rebuilds the texts of pages from nothing but the codes that the class tells. */
 public final class UnpackTest {
     private static final int RUNS = 3000;
+    // What is left of an object's 512 calls is for the questions.
+    private static final int CALLS_TO_FILL = 300;
 
     public static void main(String[] args) {
         int wrong = 0;
         int pages = 0;
         for (int run = 0; run < RUNS && wrong < 5; run++) {
-            UnmarkedPages x = filled(new Random(run));
-            Unpacker unpacker = new Unpacker(x);
-            for (int page = 0; page < x.count(0); page++) {
-                String told = unpacker.unpack(page);
-                String text = textOf(x, page);
+            Unpacker unpacker = new Unpacker();
+            int count = filled(run).count(0);
+            for (int page = 0; page < count; page++) {
+                String told = unpacker.unpack(filled(run), page);
+                String text = textOf(filled(run), page);
                 pages++;
                 if (!told.equals(text)) {
                     wrong++;
@@ -35,19 +37,23 @@ public final class UnpackTest {
         }
     }
 
-    private static UnmarkedPages filled(Random random) {
-        UnmarkedPages x = new UnmarkedPages();
+    /** The same object for the same run, whenever it is asked for. */
+    private static Pages filled(int run) {
+        Random random = new Random(run);
+        Pages x = new Pages();
         TreeSet<String> rules = new TreeSet<>();
         Texts texts = new Texts(random);
-        for (int left = random.nextInt(20); left > 0; left--) {
+        for (int more = random.nextInt(20); more > 0; more--) {
             int name = random.nextInt(6);
             int ended = random.nextInt(6);
             x.rule(name, ended, true);
             rules.add("" + "abcdef".charAt(name) + "abcdef".charAt(ended));
         }
-        for (int left = 8; left > 0; left--) {
+        int left = CALLS_TO_FILL;
+        for (String text = texts.page(rules); text.length() + 2 <= left; text = texts.page(rules)) {
+            left -= text.length() + 2;
             x.clearText();
-            for (char c : texts.page(rules).toCharArray()) {
+            for (char c : text.toCharArray()) {
                 x.type(c);
             }
             x.pack();
@@ -60,33 +66,32 @@ public final class UnpackTest {
         return x;
     }
 
-    private static String textOf(UnmarkedPages x, int page) {
+    private static String textOf(Pages x, int page) {
         StringBuilder s = new StringBuilder();
-        for (int place = 0; x.charAt(page, place) >= 0; place++) {
-            s.append((char) x.charAt(page, place));
+        int letter = x.charAt(page, 0);
+        for (int place = 1; letter >= 0; place++) {
+            s.append((char) letter);
+            letter = x.charAt(page, place);
         }
         return s.toString();
     }
 
     /** What is known to the one who unpacks, page behind page. */
     private static final class Unpacker {
-        final UnmarkedPages x;
         final Map<String, List<Character>> names = new HashMap<>();
         final Map<Character, Integer> sets = new HashMap<>();
         final Map<String, Integer> values = new HashMap<>();
         final List<String> words = new ArrayList<>();
         final int[] at = new int[4];
+        Pages x = new Pages();
         int page;
-
-        Unpacker(UnmarkedPages x) {
-            this.x = x;
-        }
 
         int next(int row) {
             return x.code(page, row, at[row]++);
         }
 
-        String unpack(int number) {
+        String unpack(Pages pages, int number) {
+            x = pages;
             page = number;
             java.util.Arrays.fill(at, 0);
             StringBuilder s = new StringBuilder();
