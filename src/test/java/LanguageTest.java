@@ -36,6 +36,8 @@ public final class LanguageTest {
         }
         wrongIf(UnmarkedPages.class.getDeclaredClasses().length > 11, "too many classes");
         source();
+        headings();
+        depth();
         room();
         System.out.println(wrong == 0 ? "the face and the language are kept" : wrong + " rules are broken");
         if (wrong != 0) {
@@ -146,6 +148,35 @@ public final class LanguageTest {
             }
         }
         wrongIf(methods < 60, "only " + methods + " methods were found");
+    }
+
+    /** The lines that the document wants ahead of calls, and the calls in its order. */
+    private static void headings() throws Exception {
+        String code = Files.readString(Path.of("src/main/java/UnmarkedPages.java"));
+        String told = Files.readString(Path.of("../shared/DOC.md"));
+        Matcher line = Pattern.compile("Ahead of the calls (.*) the interface says: (---- .*)\\.\n").matcher(told);
+        int at = 0;
+        int calls = 0;
+        while (line.find()) {
+            int heading = code.indexOf("    // " + line.group(2) + "\n", at);
+            wrongIf(heading < at, line.group(2) + " is not in its place");
+            at = Math.max(heading, at);
+            for (String name : line.group(1).replace("`", "").split(", ")) {
+                int call = code.indexOf("    public int " + name + "(", at);
+                wrongIf(call < at, name + " is not in its place");
+                wrongIf(code.substring(at, Math.max(call, at)).indexOf("// ----", 9) > 0, name + " is under another line");
+                at = Math.max(call, at);
+                calls++;
+            }
+        }
+        wrongIf(calls != FACE.length, "the document tells lines ahead of " + calls + " calls");
+    }
+
+    private static void depth() throws Exception {
+        CallDepth calls = new CallDepth("src/main/java/UnmarkedPages.java");
+        wrongIf(calls.methods() < 80, "only " + calls.methods() + " methods were found");
+        System.out.println("calls go " + calls.deepest() + " deep");
+        wrongIf(calls.deepest() < 4 || calls.deepest() > 8, "calls go too deep, or were not found");
     }
 
     /** What one object holds, then and behind many calls: all rows are made once. */
